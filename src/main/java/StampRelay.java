@@ -76,17 +76,13 @@ public final class StampRelay {
             throw new IndexOutOfBoundsException("there is no such relay");
         }
         int at = relay;
-        int seen = markOf(relay);
         for (int gone = 0; gone < RELAYS; gone++) {
             if (at == target) {
                 return gone;
             }
             at = nextRelay(at, target);
-            if ((seen & markOf(at)) != 0) {
-                return NONE;
-            }
-            seen |= markOf(at);
         }
+        // Who has gone as many steps as there are relays was at one of them twice, and would go round for ever.
         return NONE;
     }
 

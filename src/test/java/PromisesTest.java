@@ -336,8 +336,10 @@ public final class PromisesTest {
         // Fifteen letters a relay, two a tick: the last ones come in the eighth tick.
         due("pass(7)", x.pass(7), 56);
         due("pass(1)", x.pass(1), 4);
+        due("mark(58)", x.mark(58), 0);
+        dueReputation(x, 2, -15);
         // Ended letters are letters still.
-        x.answer(59);
+        due("answer(59)", x.answer(59), 10);
         dueThrow("send(0, 4, 10)", STATE, () -> x.send(0, 4, 10));
     }
 
@@ -662,6 +664,15 @@ public final class PromisesTest {
         due("falseMarks(7)", x.falseMarks(7), 1);
         dueReputation(x, 0, 13);
         due("coins(7)", x.coins(7), 100);
+
+        // Three others are enough, in whatever order they have answered: for 1 they are 4, 2 and 3.
+        part = "mark falsely by one who has answered";
+        StampRelay z = withFourAnswers();
+        z.send(0, 1, 5);
+        z.pass(2);
+        due("mark(4)", z.mark(4), 5);
+        due("falseMarks(1)", z.falseMarks(1), 1);
+        dueReputation(z, 0, 38);
 
         // A mark stays as it was when it was made: answers that come later do not make it false.
         part = "mark before the third answer";
