@@ -1,22 +1,5 @@
-import java.util.function.IntSupplier;
-
 /** Goes through the promises 1 to 21; each answer that is due was found by hand from the document. */
-public final class PromisesTest {
-    private static final int NONE = StampRelay.NONE;
-    private static final int UNDER_WAY = StampRelay.UNDER_WAY;
-    private static final int DELIVERED = StampRelay.DELIVERED;
-    private static final int ANSWERED = StampRelay.ANSWERED;
-    private static final int MARKED = StampRelay.MARKED;
-    private static final int LOST = StampRelay.LOST;
-    private static final int EXPIRED = StampRelay.EXPIRED;
-
-    private static final Class<?> INDEX = IndexOutOfBoundsException.class;
-    private static final Class<?> ARGUMENT = IllegalArgumentException.class;
-    private static final Class<?> STATE = IllegalStateException.class;
-
-    private static int wrong = 0;
-    private static String part = "";
-
+public final class PromisesTest extends Checks {
     public static void main(String[] args) {
         newObject();
         setRoute();
@@ -44,88 +27,13 @@ public final class PromisesTest {
         coinsPoolsAndEscrow();
         reputationOfSeveral();
         leastStake();
-        System.out.println(wrong == 0 ? "all answers are as due" : wrong + " answers are not as due");
-        if (wrong != 0) {
-            System.exit(1);
-        }
-    }
-
-    // ---- how answers are checked
-
-    private static void due(String call, int got, int want) {
-        if (got != want) {
-            wrong++;
-            System.out.println(part + ": " + call + " answered " + got + ", due is " + want);
-        }
-    }
-
-    /** The exception must be of the very class: those of the machine are of classes below it. */
-    private static void dueThrow(String call, Class<?> want, IntSupplier run) {
-        Class<?> got = null;
-        int answer = 0;
-        try {
-            answer = run.getAsInt();
-        } catch (RuntimeException e) {
-            got = e.getClass();
-        }
-        if (got != want) {
-            wrong++;
-            System.out.println(part + ": " + call + (got == null ? " answered " + answer : " threw " + got)
-                    + ", due is " + want);
-        }
-    }
-
-    private static void dueLetter(StampRelay x, int letter, int state, int relay, int marks) {
-        due("stateOf(" + letter + ")", x.stateOf(letter), state);
-        due("relayOf(" + letter + ")", x.relayOf(letter), relay);
-        due("marksOn(" + letter + ")", x.marksOn(letter), marks);
-    }
-
-    private static void dueQueue(StampRelay x, int relay, int... letters) {
-        due("queue(" + relay + ")", x.queue(relay), letters.length);
-        for (int place = 0; place < letters.length; place++) {
-            due("queueAt(" + relay + ", " + place + ")", x.queueAt(relay, place), letters[place]);
-        }
-        dueThrow("queueAt(" + relay + ", " + letters.length + ")", INDEX, () -> x.queueAt(relay, letters.length));
-    }
-
-    private static void dueReputation(StampRelay x, int person, int want) {
-        due("reputation(" + person + ")", x.reputation(person), want);
-        due("reputationAtOnce(" + person + ")", x.reputationAtOnce(person), want);
-    }
-
-    private static void dueAllCoins(StampRelay x, int... want) {
-        int all = 0;
-        for (int person = 0; person < 8; person++) {
-            due("coins(" + person + ")", x.coins(person), want[person]);
-            all += x.coins(person);
-        }
-        for (int relay = 0; relay < 4; relay++) {
-            all += x.pool(relay);
-        }
-        due("all coins, pools and the escrow", all + x.escrow(), 800);
-    }
-
-    /** Person 0 writes to 1, 2 and 3 for nothing after 4 has answered, and they answer: letters 0 to 3. */
-    private static StampRelay withFourAnswers() {
-        StampRelay x = new StampRelay();
-        due("send(0, 4, 10)", x.send(0, 4, 10), 0);
-        due("pass(1)", x.pass(1), 1);
-        due("answer(0)", x.answer(0), 10);
-        due("send(0, 1, 0)", x.send(0, 1, 0), 1);
-        due("send(0, 2, 0)", x.send(0, 2, 0), 2);
-        due("send(0, 3, 0)", x.send(0, 3, 0), 3);
-        due("pass(3)", x.pass(3), 3);
-        due("answer(1)", x.answer(1), 20);
-        due("answer(2)", x.answer(2), 30);
-        due("answer(3)", x.answer(3), 40);
-        return x;
+        finish();
     }
 
     // ---- promise 1
 
     private static void newObject() {
-        part = "a new object";
+        part("a new object");
         StampRelay x = new StampRelay();
         due("time()", x.time(), 0);
         due("letters()", x.letters(), 0);
@@ -162,7 +70,7 @@ public final class PromisesTest {
     // ---- promise 2
 
     private static void setRoute() {
-        part = "setRoute";
+        part("setRoute");
         StampRelay x = new StampRelay();
         due("setRoute(0, 2, 1)", x.setRoute(0, 2, 1), 2);
         due("setRoute(0, 2, 3)", x.setRoute(0, 2, 3), 1);
@@ -198,7 +106,7 @@ public final class PromisesTest {
     }
 
     private static void setRouteUnderWay() {
-        part = "setRoute for letters under way";
+        part("setRoute for letters under way");
         StampRelay x = new StampRelay();
         x.send(0, 3, 10);
         x.setRoute(0, 3, 1);
@@ -216,7 +124,7 @@ public final class PromisesTest {
     // ---- promise 3
 
     private static void steps() {
-        part = "steps";
+        part("steps");
         StampRelay x = new StampRelay();
         x.setRoute(0, 3, 1);
         due("steps(0, 3)", x.steps(0, 3), 2);
@@ -251,7 +159,7 @@ public final class PromisesTest {
     // ---- promise 4
 
     private static void send() {
-        part = "send";
+        part("send");
         StampRelay x = new StampRelay();
         for (int sender = 0; sender < 8; sender++) {
             int reader = (sender + 3) % 8;
@@ -268,7 +176,7 @@ public final class PromisesTest {
     }
 
     private static void sendWrongly() {
-        part = "send with wrong arguments";
+        part("send with wrong arguments");
         StampRelay x = new StampRelay();
         int[] none = {-1, 8, Integer.MIN_VALUE, Integer.MAX_VALUE};
         for (int bad : none) {
@@ -295,7 +203,7 @@ public final class PromisesTest {
     }
 
     private static void sendWithFewCoins() {
-        part = "send with few coins";
+        part("send with few coins");
         StampRelay x = new StampRelay();
         for (int i = 0; i < 4; i++) {
             x.send(2, 6, 20);
@@ -318,7 +226,7 @@ public final class PromisesTest {
     }
 
     private static void sendSixty() {
-        part = "send of sixty letters";
+        part("send of sixty letters");
         StampRelay x = new StampRelay();
         for (int i = 0; i < 60; i++) {
             due("send", x.send(i % 8, (i + 4) % 8, 10), i);
@@ -346,7 +254,7 @@ public final class PromisesTest {
     // ---- promise 5
 
     private static void passOnOneRelay() {
-        part = "pass on one relay";
+        part("pass on one relay");
         StampRelay x = new StampRelay();
         x.send(1, 5, 10);
         dueLetter(x, 0, UNDER_WAY, 1, 2);
@@ -362,7 +270,7 @@ public final class PromisesTest {
     }
 
     private static void passByOthers() {
-        part = "pass by other relays";
+        part("pass by other relays");
         StampRelay x = new StampRelay();
         // To a relay that is looked at later in the same tick, and to one that is looked at before.
         x.send(0, 7, 10);
@@ -384,7 +292,7 @@ public final class PromisesTest {
     }
 
     private static void passTwoOfEachQueue() {
-        part = "pass moves two letters of each queue";
+        part("pass moves two letters of each queue");
         StampRelay x = new StampRelay();
         for (int i = 0; i < 5; i++) {
             x.send(1, 5, 10);
@@ -413,7 +321,7 @@ public final class PromisesTest {
     }
 
     private static void passInOrderOfRank() {
-        part = "pass in the order of stake and reputation";
+        part("pass in the order of stake and reputation");
         StampRelay x = new StampRelay();
         x.send(0, 4, 10);
         x.send(0, 4, 12);
@@ -438,7 +346,7 @@ public final class PromisesTest {
     }
 
     private static void passIntoLoops() {
-        part = "pass into loops";
+        part("pass into loops");
         StampRelay x = new StampRelay();
         x.setRoute(0, 2, 1);
         x.setRoute(1, 2, 0);
@@ -490,7 +398,7 @@ public final class PromisesTest {
     }
 
     private static void passUntilExpired() {
-        part = "pass until letters are EXPIRED";
+        part("pass until letters are EXPIRED");
         StampRelay x = new StampRelay();
         x.send(0, 4, 15);
         x.send(0, 1, 12);
@@ -539,7 +447,7 @@ public final class PromisesTest {
     }
 
     private static void passWrongly() {
-        part = "pass with wrong arguments";
+        part("pass with wrong arguments");
         StampRelay x = new StampRelay();
         x.send(0, 4, 10);
         int[] ticks = {0, -1, 51, Integer.MIN_VALUE, Integer.MAX_VALUE};
@@ -560,7 +468,7 @@ public final class PromisesTest {
     // ---- promise 6
 
     private static void answer() {
-        part = "answer";
+        part("answer");
         StampRelay x = new StampRelay();
         x.send(0, 4, 17);
         dueThrow("answer(0)", STATE, () -> x.answer(0));
@@ -593,7 +501,7 @@ public final class PromisesTest {
     // ---- promise 7
 
     private static void mark() {
-        part = "mark";
+        part("mark");
         StampRelay x = new StampRelay();
         x.send(0, 5, 17);
         dueThrow("mark(0)", STATE, () -> x.mark(0));
@@ -624,7 +532,7 @@ public final class PromisesTest {
     }
 
     private static void markFalsely() {
-        part = "mark falsely";
+        part("mark falsely");
         StampRelay x = new StampRelay();
         for (int reader = 1; reader <= 3; reader++) {
             x.send(0, reader, 10);
@@ -666,7 +574,7 @@ public final class PromisesTest {
         due("coins(7)", x.coins(7), 100);
 
         // Three others are enough, in whatever order they have answered: for 1 they are 4, 2 and 3.
-        part = "mark falsely by one who has answered";
+        part("mark falsely by one who has answered");
         StampRelay z = withFourAnswers();
         z.send(0, 1, 5);
         z.pass(2);
@@ -675,7 +583,7 @@ public final class PromisesTest {
         dueReputation(z, 0, 38);
 
         // A mark stays as it was when it was made: answers that come later do not make it false.
-        part = "mark before the third answer";
+        part("mark before the third answer");
         StampRelay y = new StampRelay();
         for (int reader = 1; reader <= 4; reader++) {
             y.send(0, reader, 10);
@@ -691,7 +599,7 @@ public final class PromisesTest {
     }
 
     private static void markFalselyWithFewCoins() {
-        part = "mark falsely with few coins";
+        part("mark falsely with few coins");
         StampRelay x = withFourAnswers();
         // Person 5 gives away all but 7 coins, and then all.
         x.send(5, 1, 20);
@@ -718,7 +626,7 @@ public final class PromisesTest {
     }
 
     private static void markFalselyManyTimes() {
-        part = "mark falsely many times";
+        part("mark falsely many times");
         StampRelay x = withFourAnswers();
         x.send(0, 5, 10);
         x.pass(2);
@@ -752,7 +660,7 @@ public final class PromisesTest {
     // ---- promises 8 to 12
 
     private static void whatALetterTells() {
-        part = "what a letter tells";
+        part("what a letter tells");
         StampRelay x = new StampRelay();
         int[] none = {-1, 0, 60, Integer.MIN_VALUE, Integer.MAX_VALUE};
         for (int bad : none) {
@@ -779,7 +687,7 @@ public final class PromisesTest {
     // ---- promises 13 and 14
 
     private static void queue() {
-        part = "queue and queueAt";
+        part("queue and queueAt");
         StampRelay x = new StampRelay();
         x.send(3, 1, 10);
         x.send(7, 1, 20);
@@ -810,7 +718,7 @@ public final class PromisesTest {
     }
 
     private static void queueAtByReputation() {
-        part = "queueAt by the reputations of now";
+        part("queueAt by the reputations of now");
         StampRelay x = new StampRelay();
         x.send(0, 4, 10);
         x.send(4, 0, 20);
@@ -839,7 +747,7 @@ public final class PromisesTest {
     // ---- promises 15 to 17
 
     private static void coinsPoolsAndEscrow() {
-        part = "coins, pools and escrow";
+        part("coins, pools and escrow");
         StampRelay x = new StampRelay();
         int[] people = {-1, 8, Integer.MIN_VALUE, Integer.MAX_VALUE};
         for (int bad : people) {
@@ -887,7 +795,7 @@ public final class PromisesTest {
     // ---- promises 18 to 21
 
     private static void reputationOfSeveral() {
-        part = "reputation of several people";
+        part("reputation of several people");
         StampRelay x = new StampRelay();
         x.send(0, 4, 10);
         x.send(4, 0, 10);
@@ -916,7 +824,7 @@ public final class PromisesTest {
     }
 
     private static void leastStake() {
-        part = "leastStake";
+        part("leastStake");
         StampRelay x = withFourAnswers();
         due("leastStake(0)", x.leastStake(0), 0);
         due("leastStake(1)", x.leastStake(1), 10);
