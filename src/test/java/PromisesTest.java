@@ -27,6 +27,7 @@ public final class PromisesTest extends Checks {
         coinsPoolsAndEscrow();
         reputationOfSeveral();
         leastStake();
+        exampleOfReadme();
         finish();
     }
 
@@ -853,5 +854,27 @@ public final class PromisesTest extends Checks {
         dueReputation(x, 1, -12);
         due("leastStake(1)", x.leastStake(1), 20);
         due("send(1, 5, 20)", x.send(1, 5, 20), 9);
+    }
+
+    // ---- README.md
+
+    private static void exampleOfReadme() {
+        part("the example in README.md");
+        StampRelay relay = new StampRelay();
+        due("send(0, 4, 10)", relay.send(0, 4, 10), 0);
+        due("pass(1)", relay.pass(1), 1);
+        due("stateOf(0)", relay.stateOf(0), DELIVERED);
+        due("answer(0)", relay.answer(0), 10);
+        due("leastStake(0)", relay.leastStake(0), 0);
+        due("setRoute(0, 3, 1)", relay.setRoute(0, 3, 1), 3);
+        due("steps(0, 3)", relay.steps(0, 3), 2);
+        due("send(0, 7, 5)", relay.send(0, 7, 5), 1);
+        due("pass(2)", relay.pass(2), 0);
+        due("relayOf(1)", relay.relayOf(1), 3);
+        due("marksOn(1)", relay.marksOn(1), 11);
+        due("pass(1)", relay.pass(1), 1);
+        due("mark(1)", relay.mark(1), 0);
+        due("pool(3)", relay.pool(3), 5);
+        due("reputation(0)", relay.reputation(0), -5);
     }
 }
